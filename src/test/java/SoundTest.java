@@ -6,9 +6,11 @@ public final class SoundTest {
     public static void main(String[] args) throws ReflectiveOperationException {
         loftsAreSound();
         checkingChangesNothing();
+        soundTwice();
         spoiltStateIsSeen();
         spoiltPartsAreSeen();
         actsThatMightNotBeDoneAreSeen();
+        jumpsThatMightNotBeDoneAreSeen();
         manyCallsDoNoHarm();
         Due.end();
     }
@@ -66,6 +68,57 @@ public final class SoundTest {
         Due.is("then", loft.isSound(), true);
     }
 
+    /** Each loft bears something that must not be left over from one check to the next. */
+    private static void soundTwice() {
+        Silkloft loft = Lofts.with("mrmr");
+        Lofts.pack(loft, 0, 3, 0, 0, 0, 0, 1);
+        Lofts.pack(loft, 1, 2, 2, 2, 2, 2, 3);
+        Lofts.pack(loft, 2, 2, 2, 2, 2, 2, 3);
+        loft.find(0);
+        loft.tellCause(0, 'h');
+        loft.load();
+        loft.board(0, 2, 1);
+        loft.leave(0);
+        Lofts.pack(loft, 3, 2, 2, 2, 2, 2, 3);
+        loft.drop(2, true);
+        Lofts.pack(loft, 2, 3, 2, 2, 2, 2, 3);
+        soundTwice("hooks", loft);
+        loft = Lofts.with("mrm");
+        Lofts.pack(loft, 0, 3, 0, 0, 0, 0, 1);
+        Lofts.pack(loft, 1, 2, 2, 2, 2, 2, 3);
+        Lofts.pack(loft, 2, 2, 2, 2, 2, 2, 3);
+        loft.find(0);
+        loft.tellCause(0, 'r');
+        loft.load();
+        loft.board(0, 2, 1);
+        loft.jump(0, 0);
+        Lofts.pack(loft, 2, 2, 2, 0, 2, 2, 3);
+        soundTwice("riggers", loft);
+        loft = Lofts.packed("mr");
+        loft.drop(0, true);
+        soundTwice("drops", loft);
+        loft = Lofts.packed("mr");
+        loft.goOn(5);
+        loft.hire(1, 1, 5);
+        loft.setPeriod(1);
+        soundTwice("period", loft);
+        loft = Lofts.packed("mr");
+        loft.find(0);
+        loft.widen(0);
+        loft.close(0);
+        soundTwice("findings", loft);
+        loft = Lofts.packed("mr");
+        loft.load();
+        loft.board(0, 0, 1);
+        loft.jump(0, 0);
+        soundTwice("loads", loft);
+    }
+
+    private static void soundTwice(String what, Silkloft loft) {
+        Due.is(what, loft.isSound(), true);
+        Due.is(what + " again", loft.isSound(), true);
+    }
+
     private static void spoiltStateIsSeen() throws ReflectiveOperationException {
         String[] names = {"riggerCount", "canopyCount", "loadCount", "findingCount", "day",
             "period", "keptSum"};
@@ -107,45 +160,62 @@ public final class SoundTest {
         spoil("findings", 0, "level");
         spoil("findings", 0, "madeBy");
         spoil("findings", 0, "repairedBy");
-        spoilRow("owners");
-        spoilRow("hooks");
-        spoilRow("days");
-        spoilRow("riggers");
+        String[] rows = {"owners", "hooks", "days", "riggers"};
+        for (String row : rows) {
+            Silkloft loft = busy();
+            spoilFirst(row, loft, get(get(loft, "loft"), "book"));
+        }
+        Silkloft loft = busy();
+        spoilFirst("stepRiggers", loft, part(loft, "canopies", 3));
+        loft = busy();
+        spoilFirst("mains", loft, part(loft, "loads", 0));
+        loft = busy();
+        spoilFirst("reserves", loft, part(loft, "loads", 0));
         spoilStates();
+        spoilClosedFinding();
     }
 
     private static void spoilStates() throws ReflectiveOperationException {
         Silkloft open = busy();
-        Object canopy = Array.get(get(get(open, "loft"), "canopies"), 4);
+        Object canopy = part(open, "canopies", 4);
         fieldOf(canopy, "state").setChar(canopy, 'o');
         Due.is("state spoilt", open.isSound(), false);
         Silkloft told = busy();
-        Object finding = Array.get(get(get(told, "loft"), "findings"), 0);
+        Object finding = part(told, "findings", 0);
         fieldOf(finding, "cause").setChar(finding, 's');
         Due.is("cause spoilt", told.isSound(), false);
         Silkloft closed = busy();
-        finding = Array.get(get(get(closed, "loft"), "findings"), 0);
+        finding = part(closed, "findings", 0);
         fieldOf(finding, "isClosed").setBoolean(finding, true);
         Due.is("closing spoilt", closed.isSound(), false);
         Silkloft jumped = busy();
-        Object load = Array.get(get(get(jumped, "loft"), "loads"), 1);
+        Object load = part(jumped, "loads", 1);
         fieldOf(load, "hasJumped").setBoolean(load, true);
         Due.is("jump spoilt", jumped.isSound(), false);
+    }
+
+    private static void spoilClosedFinding() throws ReflectiveOperationException {
+        Silkloft loft = Lofts.packed("mr");
+        loft.find(0);
+        loft.close(0);
+        Object state = get(loft, "loft");
+        fieldOf(state, "findingCount").setInt(state, 0);
+        Due.is("closed finding lost", loft.isSound(), false);
     }
 
     private static void spoil(String row, int index, String name)
             throws ReflectiveOperationException {
         Silkloft loft = busy();
-        Object part = Array.get(get(get(loft, "loft"), row), index);
+        Object part = part(loft, row, index);
         Field field = fieldOf(part, name);
         field.setInt(part, field.getInt(part) ^ 1);
         Due.is(row + " " + name + " spoilt", loft.isSound(), false);
     }
 
-    private static void spoilRow(String name) throws ReflectiveOperationException {
-        Silkloft loft = busy();
-        int[] row = (int[]) get(get(get(loft, "loft"), "book"), name);
-        row[1] ^= 1;
+    private static void spoilFirst(String name, Silkloft loft, Object owner)
+            throws ReflectiveOperationException {
+        int[] row = (int[]) get(owner, name);
+        row[0] ^= 1;
         Due.is("row " + name + " spoilt", loft.isSound(), false);
     }
 
@@ -166,6 +236,27 @@ public final class SoundTest {
         Due.is("a canopy without life", loft.isSound(), false);
         rows[lifeOfMain] = 9999;
         Due.is("as it was again", loft.isSound(), true);
+        // Diary and state agree now, so that nothing but the rule of the step is broken.
+        Object rigger = part(loft, "riggers", 0);
+        fieldOf(rigger, "licences").setInt(rigger, 1);
+        rows[licencesOfFirst] = 1;
+        Due.is("a step without licence, state like it", loft.isSound(), false);
+    }
+
+    private static void jumpsThatMightNotBeDoneAreSeen() throws ReflectiveOperationException {
+        Silkloft loft = Lofts.packed("mr");
+        loft.load();
+        loft.board(0, 0, 1);
+        loft.goOn(50);
+        loft.jump(0, 0);
+        int[] rows = (int[]) get(get(loft, "diary"), "rows");
+        int lifeOfMain = 6 * 5 + 4;
+        for (int life = 50; life >= 49; life--) {
+            Object canopy = part(loft, "canopies", 0);
+            fieldOf(canopy, "life").setInt(canopy, life);
+            rows[lifeOfMain] = life;
+            Due.is("a jump with a main of the life " + life, loft.isSound(), life == 50);
+        }
     }
 
     private static void manyCallsDoNoHarm() {
@@ -181,6 +272,11 @@ public final class SoundTest {
             loft.isSound();
         }
         Due.is("behind the 512th call nothing is due, and nothing breaks", loft.held(), 0);
+    }
+
+    private static Object part(Silkloft loft, String row, int index)
+            throws ReflectiveOperationException {
+        return Array.get(get(get(loft, "loft"), row), index);
     }
 
     private static Object get(Object owner, String name) throws ReflectiveOperationException {
