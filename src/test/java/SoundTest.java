@@ -11,6 +11,7 @@ public final class SoundTest {
         spoiltPartsAreSeen();
         actsThatMightNotBeDoneAreSeen();
         jumpsThatMightNotBeDoneAreSeen();
+        allCallsMayBeActs();
         manyCallsDoNoHarm();
         Due.end();
     }
@@ -256,6 +257,13 @@ public final class SoundTest {
             fieldOf(canopy, "life").setInt(canopy, life);
             rows[lifeOfMain] = life;
             Due.is("a jump with a main of the life " + life, loft.isSound(), life == 50);
+        }
+    }
+
+    private static void allCallsMayBeActs() {
+        Silkloft loft = new Silkloft();
+        for (int i = 1; i <= 512; i++) {
+            Due.is("act " + i, loft.goOn(1), i);
         }
     }
 

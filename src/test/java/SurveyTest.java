@@ -12,6 +12,7 @@ public final class SurveyTest {
         nextLeavesOutTheOld();
         shareOfGrounded();
         meanOfDrops();
+        fullLoftAnswers();
         Due.end();
     }
 
@@ -137,5 +138,46 @@ public final class SurveyTest {
         Due.is("four", loft.meanDrops(), 4.0 / 3.0);
         loft.drop(0, false);
         Due.is("a bad one", loft.meanDrops(), 1.0 / 3.0);
+    }
+
+    /** As many of each as there may be, so that every count stands at its bound. */
+    private static void fullLoftAnswers() {
+        Silkloft loft = Lofts.staffed();
+        loft.addRigger(63, 9999);
+        loft.addRigger(63, 9999);
+        for (int i = 0; i < 24; i++) {
+            loft.addCanopy(i < 12 ? 'm' : 'r', 1, 1, 9999);
+            Lofts.pack(loft, i, i % 6, 7, 6, 5, 4, 3);
+        }
+        for (int i = 0; i < 30; i++) {
+            loft.load();
+        }
+        for (int i = 0; i < 12; i++) {
+            loft.find(i + 12);
+        }
+        Due.is("sound", loft.isSound(), true);
+        for (int i = 0; i < 4; i++) {
+            loft.widen(11);
+        }
+        Due.is("all by the last finding", loft.grounds(11), 24);
+        Due.is("share", loft.groundedShare(), 1f);
+        for (int i = 0; i < 12; i++) {
+            loft.close(i);
+        }
+        for (int i = 0; i < 6; i++) {
+            Due.is("board", loft.board(29, i, 23 - i), i + 1);
+        }
+        Due.is("jump", loft.jump(29, 63), 6);
+        Due.is("hang", loft.hang(23, 5), 1);
+        loft.breakOff(23);
+        Due.is("repair by the last rigger", loft.repair(23, 7), 1);
+        Due.is("hire", loft.hire(11, 3, 9), 3);
+        Due.is("held", loft.held(), 9);
+        Due.is("drop", loft.drop(10, false), 0);
+        Due.is("no room for its finding", loft.isGrounded(10), false);
+        Due.is("mean", loft.meanDrops(), 0.0);
+        Due.is("sharers", loft.sharers(23), 3);
+        Due.is("next", loft.next(), 12);
+        Due.is("sound still", loft.isSound(), true);
     }
 }
