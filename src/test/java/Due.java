@@ -7,6 +7,14 @@ final class Due {
         void run();
     }
 
+    interface IntCall {
+        void run(int number);
+    }
+
+    interface CharCall {
+        void run(char sign);
+    }
+
     private Due() {
     }
 
@@ -41,6 +49,20 @@ final class Due {
             isDue = e.getClass() == due;
         }
         note(what, isDue, got, due.getSimpleName());
+    }
+
+    static void failsForEach(String what, Class<? extends Exception> due, IntCall call,
+            int... numbers) {
+        for (int number : numbers) {
+            fails(what + " " + number, due, () -> call.run(number));
+        }
+    }
+
+    static void failsForSigns(String what, Class<? extends Exception> due, CharCall call,
+            char... signs) {
+        for (char sign : signs) {
+            fails(what + " " + (int) sign, due, () -> call.run(sign));
+        }
     }
 
     static void note(String what, boolean isRight, String got, String due) {

@@ -57,6 +57,89 @@ final class Lofts {
         pack(loft, canopy);
     }
 
+    /**
+     * A loft whose canopy 0, of this kind, is in this state; the canopy 1, of the other kind, is
+     * packed, or aboard with it on the load 0. No other load begins, and no finding is made.
+     */
+    static Silkloft inState(char kind, char state) {
+        return inState(kind, state, 9999);
+    }
+
+    /** As the other, the canopy 0 with this life. */
+    static Silkloft inState(char kind, char state, int life) {
+        Silkloft loft = staffed();
+        loft.addCanopy(kind, 1, 1, life);
+        loft.addCanopy(kind == 'm' ? 'r' : 'm', 2, 2, 9999);
+        pack(loft, 1, 5);
+        if (state == 'p') {
+            loft.hang(0, 4);
+            loft.step(0, 0);
+        } else if (state != 'o') {
+            pack(loft, 0, 4);
+        }
+        if (state == 'a') {
+            loft.load();
+            loft.board(0, kind == 'm' ? 0 : 1, kind == 'm' ? 1 : 0);
+        } else if (state == 'h') {
+            loft.hire(0, 30, 100);
+        }
+        return loft;
+    }
+
+    /** Numbers of none, if there are so many: too small, too large, and such as wrap around. */
+    static int[] noneOf(int count) {
+        return new int[] {-1, count, count + 1, Integer.MIN_VALUE, Integer.MAX_VALUE,
+            -count - 1, 256, 65536, -256};
+    }
+
+    /** Numbers outside of these two: the next ones, the last ones, and such as wrap around. */
+    static int[] outside(int least, int most) {
+        return new int[] {least - 1, most + 1, Integer.MIN_VALUE, Integer.MAX_VALUE,
+            least + 65536, most - 65536, -most - 1};
+    }
+
+    /** All signs up to 255 but these, and some above that come to these if they are cut. */
+    static char[] signsBut(String allowed) {
+        StringBuilder signs = new StringBuilder();
+        for (char sign = 0; sign < 256; sign++) {
+            if (allowed.indexOf(sign) < 0) {
+                signs.append(sign);
+            }
+        }
+        for (int i = 0; i < allowed.length(); i++) {
+            signs.append((char) (allowed.charAt(i) + 256));
+            signs.append((char) (allowed.charAt(i) + 32768));
+        }
+        return signs.append((char) 65535).toString().toCharArray();
+    }
+
+    /** Drops a packed canopy well and packs it on this hook. */
+    static void dropAndPackOn(Silkloft loft, int canopy, int hook) {
+        loft.drop(canopy, true);
+        pack(loft, canopy, hook);
+    }
+
+    /** A loft with something of everything. */
+    static Silkloft busy() {
+        Silkloft loft = packed("mrmrmm");
+        loft.setPeriod(90);
+        loft.goOn(2);
+        loft.load();
+        loft.board(0, 0, 1);
+        loft.hire(2, 1, 40);
+        loft.drop(3, false);
+        loft.repair(3, 0);
+        loft.goOn(9);
+        loft.back(2, true, false);
+        loft.hire(4, 9, 70);
+        loft.hang(3, 2);
+        loft.step(3, 4);
+        dropAndPack(loft, 5, true);
+        dropAndPack(loft, 5, true);
+        loft.load();
+        return loft;
+    }
+
     /** Lets the loft go on by more days than one call may. */
     static void goOn(Silkloft loft, int days) {
         int left = days;
